@@ -155,7 +155,7 @@ public final class NameSeeker {
     }
 
     public int untype() {
-        return typed.size == 0 ? NO : typed.removeLast();
+        return typed.removeLast();
     }
 
     public int roll() {
@@ -651,8 +651,10 @@ public final class NameSeeker {
             }
         }
 
-        /** There must be a letter. */
-        char removeLast() {
+        int removeLast() {
+            if (size == 0) {
+                return NO;
+            }
             size--;
             return letters[size];
         }
