@@ -31,7 +31,8 @@ public final class ModelTest {
 
         void go() {
             while (calls < CALLS) {
-                int group = random.nextInt(100);
+                // the last calls are drawn one by one, so that none is behind the 512th, where answers are free
+                int group = calls > CALLS - 10 ? 25 + random.nextInt(75) : random.nextInt(100);
                 if (group < 5) {
                     layNames();
                 } else if (group < 8) {
@@ -64,24 +65,25 @@ public final class ModelTest {
         }
 
         void layNames() {
-            if (calls > CALLS - 80) {
-                wipe();
-                return;
-            }
-            wipe();
+            StringBuilder text = new StringBuilder();
             int names = 1 + random.nextInt(random.nextInt(6) == 0 ? 9 : 3);
             for (int n = 0; n < names; n++) {
-                StringBuilder text = new StringBuilder("s" + random.nextInt(4) + ",");
+                text.append('s').append(random.nextInt(4)).append(',');
                 int pieces = 1 + random.nextInt(7);
                 for (int i = 0; i < pieces; i++) {
                     text.append(PIECES[random.nextInt(PIECES.length)]);
                 }
-                writeAll(text + ";");
+                text.append(';');
                 if (random.nextInt(4) == 0) {
-                    writeAll("w" + random.nextInt(10) + "," + random.nextInt(10) + "," + random.nextInt(10) + ";");
+                    text.append('w').append(random.nextInt(10)).append(',').append(random.nextInt(10));
+                    text.append(',').append(random.nextInt(10)).append(';');
                 }
             }
-            lay();
+            wipe();
+            if (text.length() < CALLS - calls - 10) {
+                writeAll(text.toString());
+                lay();
+            }
         }
 
         void writeNoise() {
