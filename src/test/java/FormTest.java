@@ -6,7 +6,9 @@ import java.nio.file.Files;
 import java.nio.file.Path;
 import java.util.Arrays;
 import java.util.Comparator;
+import java.util.Map;
 import java.util.Set;
+import java.util.TreeMap;
 import java.util.TreeSet;
 import java.util.regex.Matcher;
 import java.util.regex.Pattern;
@@ -22,7 +24,9 @@ public final class FormTest {
     public static void main(String[] args) throws Exception {
         face();
         nestedClasses();
-        source(Files.readString(Path.of("src/main/java/NameSeeker.java")));
+        String source = Files.readString(Path.of("src/main/java/NameSeeker.java"));
+        source(source);
+        methods(source.replaceAll("(?s)/\\*.*?\\*/", "").replaceAll("//[^\n]*", ""));
         anyArguments();
         System.out.println(wrong == 0 ? "the form is as due" : wrong + " faults of form");
         if (wrong != 0) {
@@ -93,6 +97,44 @@ public final class FormTest {
             must(!matcher.find(), "no " + banned + " in the program");
         }
         must(source.chars().allMatch(sign -> sign < 128), "signs 1 to 127 alone");
+    }
+
+    /** Methods are short, make nothing, do not call themselves, go at most eight deep. */
+    private static void methods(String code) {
+        Map<String, Set<String>> calls = new TreeMap<>();
+        Pattern method = Pattern.compile("(?m)^( +)(?:(?:public|private|static) )*([\\w\\[\\]]+ )?(\\w+)\\(([^()]*)\\) \\{\\n((?:.*\\n)*?)\\1\\}");
+        Matcher matcher = method.matcher(code);
+        while (matcher.find()) {
+            boolean isConstructor = matcher.group(2) == null;
+            String name = matcher.group(3);
+            String body = matcher.group(5);
+            must(body.split("\n").length <= 60, name + " has some sixty lines");
+            must(matcher.group(4).split(",").length <= 7, name + " has seven parameters");
+            must(isConstructor || !body.contains("new "), name + " makes no object");
+            Set<String> called = calls.computeIfAbsent(name, each -> new TreeSet<>());
+            Matcher call = Pattern.compile("\\b(\\w+)\\(").matcher(body);
+            while (call.find()) {
+                called.add(call.group(1));
+            }
+        }
+        for (String one : FACE) {
+            must(calls.containsKey(one.split(" ")[0]), "the methods that were read have " + one);
+        }
+        for (String name : calls.keySet()) {
+            must(deepest(calls, name, 0) <= 8, name + " goes at most eight deep");
+        }
+    }
+
+    /** How many methods stand open at once below this one, itself too; methods of one name are taken for one. */
+    private static int deepest(Map<String, Set<String>> calls, String name, int above) {
+        int most = 0;
+        if (calls.containsKey(name) && above <= 8) {
+            for (String called : calls.get(name)) {
+                most = Math.max(most, deepest(calls, called, above + 1));
+            }
+            most++;
+        }
+        return most;
     }
 
     /** 512 calls and more with numbers of every size: none may throw, and a wrong one changes no count but HITS and MISSES. */
